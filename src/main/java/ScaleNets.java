@@ -691,9 +691,8 @@ public final class ScaleNets {
         }
 
         private boolean readPoint() {
-            skipBlanks();
-            if (count >= MOST_POINTS && spells("point")) {
-                return wrong(FAULT_CROWD, next);
+            if (count >= MOST_POINTS) {
+                return wrong(spells("point") ? FAULT_CROWD : FAULT_FORM, next);
             }
             if (!takeWord("point") || !takeName() || !takeWord("at") || !takePlace() || !takeSemicolon()) {
                 return false;
@@ -719,9 +718,6 @@ public final class ScaleNets {
             if (isAmong(name, packed)) {
                 return wrong(FAULT_NAME, start);
             }
-            if (count >= MOST_POINTS) {
-                return wrong(FAULT_CROWD, start);
-            }
             name[count] = packed;
             return true;
         }
@@ -737,9 +733,6 @@ public final class ScaleNets {
             int packed = placeOf(x, y, z);
             if (isAmong(place, packed)) {
                 return wrong(FAULT_PLACE, start);
-            }
-            if (count >= MOST_POINTS) {
-                return wrong(FAULT_CROWD, start);
             }
             place[count] = packed;
             return true;
@@ -954,7 +947,10 @@ public final class ScaleNets {
             return nearest;
         }
 
-        /** The highest LEVEL, from low on, below the first that has one nearer than 2 to it; the ROOT always is. */
+        /**
+         * The LEVEL, low or higher, below the first whose NET has a POINT nearer than 2 to that LEVEL:
+         * the LEVEL of one that comes (from 0) or rises (from its own). The ROOT is near enough at 10.
+         */
         int levelFrom(int low, int where) {
             for (int k = low + 1; k < TOP_LEVEL; k++) {
                 int nearest = nearestOfNet(k, where);
@@ -966,28 +962,24 @@ public final class ScaleNets {
         }
 
         void comeAt(int p, int where) {
-            if (p < 0 || p >= MOST_POINTS) {
-                return;
-            }
-            if (root == NONE) {
-                becomeRoot(p);
-            } else {
+            if (p >= 0 && p < MOST_POINTS) {
                 settle(p, 0, where);
+                place[p] = where;
+                count++;
             }
-            place[p] = where;
-            count++;
         }
 
+        /** Gives p, that comes or was left by its PARENT, its LEVEL (low or a higher one) and PARENT. */
         private void settle(int p, int low, int where) {
-            int settled = levelFrom(low, where);
-            parent[p] = nearestOfNet(settled + 1, where);
-            level[p] = settled;
-        }
-
-        private void becomeRoot(int p) {
-            root = p;
-            level[p] = TOP_LEVEL;
-            parent[p] = NONE;
+            if (root == NONE) {
+                root = p;
+                level[p] = TOP_LEVEL;
+                parent[p] = NONE;
+            } else {
+                int settled = levelFrom(low, where);
+                parent[p] = nearestOfNet(settled + 1, where);
+                level[p] = settled;
+            }
         }
 
         void leave(int p) {
@@ -1005,17 +997,9 @@ public final class ScaleNets {
             for (int k = TOP_LEVEL - 1; k >= 0; k--) {
                 for (int q = 0; q < MOST_POINTS; q++) {
                     if (level[q] == k && parent[q] == p) {
-                        takeLeftOne(q);
+                        settle(q, k, place[q]);
                     }
                 }
-            }
-        }
-
-        private void takeLeftOne(int q) {
-            if (root == NONE) {
-                becomeRoot(q);
-            } else {
-                settle(q, level[q], place[q]);
             }
         }
 

@@ -42,7 +42,11 @@ public final class ImageTest {
             x.add(255, 255, i);
         }
         CHECK.due("image() of 40", x.image(), 243);
-        CHECK.due("octet(242)", x.octet(242) >= 0, true);
+        int[] forty = new int[243];
+        for (int k = 0; k < 243; k++) {
+            forty[k] = x.octet(k);
+        }
+        on("an image of 40", true, forty);
     }
 
     private static void on(String what, boolean want, int... bytes) {
@@ -81,6 +85,9 @@ public final class ImageTest {
         on("41 points", false, checked(java.util.Arrays.copyOf(new int[] {0, 41}, 2 + 6 * 41)));
         on("like numbers", false, with(8, 0));
         on("numbers that fall", false, with(14, 1));
+        on("like numbers, all else right", false, checked(0, 3, 0, 0, 0, 0, 10, 255, 1, 8, 0, 0, 3, 0, 1, 16, 0, 0, 4, 0));
+        on("numbers that fall, all else right", false, checked(0, 3, 0, 0, 0, 0, 10, 255, 2, 8, 0, 0, 3, 0, 1, 16, 0, 0, 4, 0));
+        on("numbers that rise, as those", true, checked(0, 3, 0, 0, 0, 0, 10, 255, 1, 8, 0, 0, 3, 0, 2, 16, 0, 0, 4, 0));
         on("a number of 40", false, with(20, 40));
         on("like places", false, with(15, 3));
         on("none of level 10", false, with(6, 9));
@@ -118,6 +125,7 @@ public final class ImageTest {
         Check.tape(x, 0, 1, 0, 3);
         x.see();
         x.by(1);
+        x.goes(0, 0);
         Check.tape(x, checked(0, 3, 0, 0, 0, 0, 10, 255, 1, 8, 0, 0, 3, 0, 2, 5, 0, 0, 1, 1));
         CHECK.due("on()", x.on(), true);
         int[] has = {3, 0, 0, 3, 1, 0, 5};

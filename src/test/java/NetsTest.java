@@ -48,6 +48,8 @@ public final class NetsTest {
         CHECK.due("child(0, 1)", x.child(0, 1), 1);
         CHECK.due("child(0, 2)", x.child(0, 2), -1);
         CHECK.due("child(0, -1)", x.child(0, -1), -1);
+        CHECK.due("child(1, 0)", x.child(1, 0), 2);
+        CHECK.due("child(1, 1)", x.child(1, 1), -1);
         CHECK.due("child(2, 0)", x.child(2, 0), -1);
     }
 
@@ -90,6 +92,10 @@ public final class NetsTest {
         CHECK.due("level of b", x.point(1, 3), 4);
         CHECK.due("level of c", x.point(2, 3), 3);
         CHECK.due("parent of c", x.point(2, 4), 0);
+        // c is nearer to e, but e is of c's own level.
+        ScaleNets w = Check.of("set by most;point a at 0 0 0;point e at 12 0 0;point c at 13 10 0;");
+        CHECK.due("level of c", w.point(2, 3), 3);
+        CHECK.due("parent of c", w.point(2, 4), 0);
         // The nearest of all is e, but it is of no net above c's level.
         ScaleNets y = Check.of("set by most;point a at 0 0 0;point e at 9 0 0;point b at 40 0 0;point c at 21 0 0;");
         CHECK.due("level of e", y.point(1, 3), 3);
@@ -142,6 +148,10 @@ public final class NetsTest {
             CHECK.due("loose(11, " + what + ")", x.loose(11, what), -1);
             CHECK.due("loose(-1, " + what + ")", x.loose(-1, what), -1);
         }
+        ScaleNets y = Check.of("set by most;point r at 0 0 0;point p at 100 0 0;point q at 100 64 0;");
+        CHECK.due("loose(6, 0): the two that are no root", y.loose(6, 0), 64);
+        CHECK.due("loose(5, 2): just 64 is not nearer", y.loose(5, 2), 1);
+        CHECK.due("loose(6, 2): nearer than 128", y.loose(6, 2), 3);
         ScaleNets empty = Check.of("set by most;");
         for (int what = 0; what < 3; what++) {
             CHECK.due("loose without points", empty.loose(0, what), -1);

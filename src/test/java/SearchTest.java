@@ -61,6 +61,14 @@ public final class SearchTest {
         CHECK.due("between 0 and 2", x.seek(15, 0, 0), 0);
         CHECK.due("a", x.seek(0, 0, 0), 1);
         CHECK.due("as far from a and b", x.seek(10, 255, 0), 0);
+        ScaleNets late = Check.of("set by most;point x at 100 100 100;point a at 0 0 0;");
+        late.drop(0);
+        late.add(20, 0, 0);
+        // The root is 1; 0 is looked at later, and is as near, or farther.
+        CHECK.due("like ones, the less number later", late.seek(10, 0, 0), 0);
+        CHECK.due("the root is nearer", late.seek(0, 5, 0), 1);
+        CHECK.due("the root is farther", late.remote(20, 5, 0, 0), 1);
+        CHECK.due("like ones, the less number later", late.remote(10, 0, 0, 0), 0);
         x.drop(0);
         // a is the root now; b is as near as a.
         CHECK.due("as far from a and b", x.seek(10, 255, 0), 1);
@@ -86,6 +94,22 @@ public final class SearchTest {
         // a (212): BEST is b at 12 from 8 on; at 7 it is 212 - 128 = 84, not below 12: spared are e and f.
         found(x, 1, 4, 1, 2);
         pruned(x, 0, 0, 7, 212, 2);
+    }
+
+    /** FAR less 2 to the k just FAR of BEST: it is pruned; and such a row is of a proof. */
+    private static void justAsFar() {
+        ScaleNets x = Check.of("set by most;point a at 0 0 0;point b at 3 0 0;point c at 4 0 0;point d at 9 0 0;");
+        CHECK.due("seek", x.seek(9, 1, 0), 3);
+        found(x, 1, 2, 1, 2);
+        pruned(x, 0, 0, 3, 9, 2);
+        Check.tape(x, 0, 3);
+        CHECK.due("its proof", x.proves(9, 1, 0, 1), 2);
+        Check.tape(x, 0, 3);
+        CHECK.due("its proof, not of more", x.proves(9, 1, 0, 2), -1);
+        ScaleNets y = Check.of("set by most;point a at 0 0 0;point b at 3 0 0;point d at 8 0 0;");
+        // a at 0 and 8 together are not above d's 8, so b is not looked at.
+        CHECK.due("remote", y.remote(0, 0, 0, 0), 2);
+        CHECK.due("remote looked at", y.remote(0, 0, 0, 2), 2);
     }
 
     private static int proves(ScaleNets x, int d, int... rows) {
@@ -185,6 +209,7 @@ public final class SearchTest {
         seeks();
         likeOnes();
         crowds();
+        justAsFar();
         proofs();
         nths();
         remotes();

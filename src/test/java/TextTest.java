@@ -177,8 +177,33 @@ public final class TextTest {
         CHECK.due("undo() behind another set", x.undo(), false);
         CHECK.due("letter(0, 0)", x.letter(0, 0), 17);
         CHECK.due("feed: the tape went", x.feed(0, 0, 0, 0, 0), 20);
+        Check.tape(x, "set by sum;");
+        CHECK.due("a third set", x.set(), 1);
+        CHECK.due("its measure", x.has(1), 0);
         CHECK.due("has(7)", x.has(7), -1);
         CHECK.due("has(-1)", x.has(-1), -1);
+    }
+
+    /** Bytes behind the end of the tape are none of it, though they were fed. */
+    private static void behindTheEnd() {
+        String text = "set by sum;point ab at 1 2 34;";
+        for (int n = 0; n <= text.length(); n++) {
+            ScaleNets x = new ScaleNets();
+            Check.tape(x, text);
+            CHECK.due("end(" + n + ")", x.end(n), true);
+            boolean whole = n == 11 || n == text.length();
+            CHECK.due("set() of the first " + n, x.set() >= 0, whole);
+            CHECK.due("point(0, 2) of the first " + n, x.point(0, 2), n == text.length() ? 34 : -1);
+        }
+        ScaleNets y = new ScaleNets();
+        Check.tape(y, text);
+        y.end(10);
+        y.set();
+        CHECK.due("fault(1) of the first 10", y.fault(1), 10);
+        Check.tape(y, text);
+        y.end(28);
+        y.set();
+        CHECK.due("fault(1) of the first 28", y.fault(1), 28);
     }
 
     private static int named(ScaleNets x, String name) {
@@ -209,6 +234,7 @@ public final class TextTest {
         CHECK.due("named with a blank", named(x, "m "), -1);
         CHECK.due("named with a blank ahead", named(x, " m"), -1);
         CHECK.due("named abcxyza", named(x, "abcxyza"), -1);
+        CHECK.due("named by one of level 0", named(Check.of(Check.FOUR), "c"), 2);
         CHECK.due("named M", named(x, "M"), -1);
         CHECK.due("named set", named(x, "set"), -1);
         CHECK.due("named `", named(x, "`"), -1);
@@ -228,6 +254,7 @@ public final class TextTest {
         numbers();
         crowds();
         stays();
+        behindTheEnd();
         letters();
         CHECK.finish();
     }

@@ -28,6 +28,7 @@ public final class TogetherTest {
         }
         CHECK.due("centers without points", new ScaleNets().centers(1, 0), -1);
         CHECK.due("centers of no n, without points", new ScaleNets().centers(0, 0), -1);
+        CHECK.due("center of d by 2, like ones", Check.of(SQUARE).center(3, 2), 0);
         // The root is b, but of like ones a center of the less number has a point.
         ScaleNets y = Check.of(SQUARE);
         y.drop(0);
@@ -54,6 +55,15 @@ public final class TogetherTest {
         for (int k = 0; k < 4; k++) {
             CHECK.due("thin(" + k + "), like ones", y.thin(k), like[k]);
         }
+        y.move(0, 100, 0, 0);
+        y.move(2, 10, 40, 0);
+        int[] moved = {1, 0, 2, 3};
+        for (int k = 0; k < 4; k++) {
+            CHECK.due("thin(" + k + ") behind moves", y.thin(k), moved[k]);
+        }
+        y.move(3, 255, 0, 0);
+        CHECK.due("thin(1) behind a move", y.thin(1), 3);
+        CHECK.due("thin(2) behind a move", y.thin(2), 0);
         CHECK.due("thin without points", new ScaleNets().thin(0), -1);
     }
 
@@ -71,6 +81,9 @@ public final class TogetherTest {
         }
         CHECK.due("pair(6)", x.pair(6), -1);
         CHECK.due("pair(-1)", x.pair(-1), -1);
+        ScaleNets two = Check.of("set by sum;point a at 1 1 1;point b at 1 2 3;");
+        CHECK.due("pair of two", two.pair(1), 1);
+        CHECK.due("pair of two", two.pair(5), 3);
         ScaleNets one = Check.of("set by sum;point a at 1 1 1;");
         CHECK.due("pair of one", one.pair(0), -1);
         CHECK.due("pair of one", one.pair(5), -1);
@@ -104,6 +117,10 @@ public final class TogetherTest {
             CHECK.due("link of the chain", z.link(k, 1), chain[k][1]);
             CHECK.due("link of the chain", z.link(k, 2), 10);
         }
+        z.move(3, 20, 0, 1);
+        CHECK.due("links together behind a move", z.link(-1, 0), 21);
+        z.move(3, 25, 0, 0);
+        CHECK.due("link behind a move", z.link(0, 2), 5);
         ScaleNets one = Check.of("set by sum;point a at 1 1 1;");
         CHECK.due("link of one", one.link(0, 0), -1);
         CHECK.due("links of one together", one.link(-1, 0), 0);
@@ -129,6 +146,7 @@ public final class TogetherTest {
         CHECK.due("groups, no length", x.groups(1000), -1);
         CHECK.due("groups without points", new ScaleNets().groups(999), 0);
         CHECK.due("groups without points, no length", new ScaleNets().groups(1000), -1);
+        CHECK.due("group, asked first", Check.of(Check.FOUR).group(2, 1), 1);
         // Numbers need not be without gaps.
         x.drop(1);
         CHECK.due("groups behind a drop", x.groups(4), 2);

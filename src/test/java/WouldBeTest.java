@@ -24,6 +24,9 @@ public final class WouldBeTest {
         for (int i = 0; i < 40; i++) {
             CHECK.due("add", empty.add(i, 0, 0), i);
         }
+        ScaleNets like = Check.of("set by most;point a at 0 0 0;point e at 12 0 0;");
+        CHECK.due("comes nearer to one of its own level", like.comes(13, 10, 0, 0), 3);
+        CHECK.due("comes nearer to one of its own level", like.comes(13, 10, 0, 1), 0);
         CHECK.due("comes as the 41st", empty.comes(1, 1, 1, 0), -1);
         CHECK.due("comes is not refused", x.status(2), 0);
     }
@@ -59,6 +62,12 @@ public final class WouldBeTest {
         CHECK.due("anew(2)", x.anew(2), -1);
         CHECK.due("anew(-1)", x.anew(-1), -1);
         CHECK.same("anew", Check.state(x), ahead);
+        ScaleNets y = Check.of(Check.FOUR);
+        y.drop(1);
+        y.add(3, 0, 0);
+        // c rose to 2, b is below it at 0; anew b is of 1 below a, and c of 0 below b.
+        CHECK.due("anew(0) to level 0", y.anew(0), 2);
+        CHECK.due("anew(1) to level 0", y.anew(1), 2);
         CHECK.due("anew without a set", new ScaleNets().anew(0), 0);
         CHECK.due("anew without a set", new ScaleNets().anew(1), 0);
     }
@@ -101,7 +110,10 @@ public final class WouldBeTest {
         fits(x, "by none");
         tells(x, "by none", -1, -1, -1);
         x.drop(1);
+        CHECK.due("fits(2), asked first", x.fits(2), 2);
         fits(x, "when the point is gone", 0, 1, 2);
+        // Left are a, c, d: by none of the pairs of a is it told, by c and d it is 13, 9 or 3.
+        tells(x, "when the point is gone", 2, 3, 1);
         CHECK.due("has(4) when the point is gone", x.has(4), 1);
         x.undo();
         fits(x, "when it is there again");
