@@ -1322,6 +1322,8 @@ public final class ScaleNets {
 
     /** What is asked of all POINTS together. */
     private static final class Whole {
+        private static final int BEYOND_ALL = 0x7fffffff;
+
         private final Points points;
         final int[] thinned = new int[MOST_POINTS];
         final int[] links = new int[MOST_POINTS];
@@ -1386,7 +1388,7 @@ public final class ScaleNets {
             int next = points.root;
             for (int p = 0; p < MOST_POINTS; p++) {
                 taken[p] = false;
-                leastFar[p] = Integer.MAX_VALUE;
+                leastFar[p] = BEYOND_ALL;
             }
             for (int i = 0; i < points.count && i < MOST_POINTS && points.isThere(next); i++) {
                 thinned[i] = next;
@@ -1494,7 +1496,7 @@ public final class ScaleNets {
             linked = 0;
             for (int p = 0; p < MOST_POINTS; p++) {
                 taken[p] = false;
-                nearestPair[p] = Integer.MAX_VALUE;
+                nearestPair[p] = BEYOND_ALL;
             }
             int next = points.root;
             for (int i = 0; i < points.count && points.isThere(next); i++) {

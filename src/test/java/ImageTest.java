@@ -133,6 +133,7 @@ public final class ImageTest {
             CHECK.due("has(" + what + ") behind on()", x.has(what), has[what]);
         }
         CHECK.due("letter(0, 0)", x.letter(0, 0), 0);
+        CHECK.due("letter(1, 0)", x.letter(1, 0), 0);
         CHECK.due("parent of 2", x.point(2, 4), 1);
         CHECK.due("level of 2", x.point(2, 3), 1);
         CHECK.due("no point 3", x.point(3, 3), -1);

@@ -78,6 +78,11 @@ public final class RulesTest {
             imports.add(m.group(1));
         }
         CHECK.same("imports", imports.toString(), "[java.util.Arrays]");
+        Set<String> library = Set.of("Integer.bitCount", "Math.abs", "Math.min", "Math.max", "Arrays.fill", "System.arraycopy");
+        m = Pattern.compile("\\b(Integer|Long|Math|Arrays|System|String|Character|List)\\.\\w+").matcher(bare.replaceAll("import [^;]*;", ""));
+        while (m.find()) {
+            CHECK.due("the library's " + m.group(), library.contains(m.group()), true);
+        }
         CHECK.due("signs 1 to 127 alone", source.chars().allMatch(s -> s > 0 && s < 128), true);
         int length = 0;
         for (String line : source.split("\n")) {
