@@ -62,6 +62,14 @@ final class Edges {
         }
     }
 
+    /** By most: the root is number 1, at 0 0 0, as number 0 went and came again at another place. */
+    static ScaleNets rootIsOne(int x, int y, int z) {
+        ScaleNets nets = Check.of("set by most;point x at 200 200 200;point a at 0 0 0;");
+        nets.drop(0);
+        nets.add(x, y, z);
+        return nets;
+    }
+
     /** All that can be kept is there: names, a row seen, a search, an image, a seed, two acts. */
     static ScaleNets rich() {
         ScaleNets x = Check.of(Check.FOUR);

@@ -181,6 +181,16 @@ public final class EdgesOfActsTest {
         }
     }
 
+    static void promise38_drop_childrenOfLevel9AreTakenToo() {
+        ScaleNets x = Check.of(Edges.CHAIN);
+        x.drop(0);
+        CHECK.due("has(2)", x.has(2), 1);
+        CHECK.due("level of b", x.point(1, 3), 10);
+        CHECK.due("parent of b", x.point(1, 4), -1);
+        CHECK.due("level of c", x.point(2, 3), 8);
+        CHECK.due("parent of c", x.point(2, 4), 1);
+    }
+
     // ---- 39
 
     static void promise39_move_whereOneIsIsRefused() {
@@ -317,6 +327,15 @@ public final class EdgesOfActsTest {
         stand("lay()", x, 1, 10, -1, 2, 0, 1, 3, 3, 1);
         CHECK.due("lay() again", x.lay(), 0);
         CHECK.due("letter(3, 0)", x.letter(3, 0), 4);
+        CHECK.due("lay(), number 0 and the root, 1", Edges.rootIsOne(20, 0, 0).lay(), 2);
+    }
+
+    static void promise41_lay_toLevel0() {
+        ScaleNets x = Check.of(Check.FOUR);
+        x.drop(1);
+        x.add(3, 0, 0);
+        CHECK.due("lay()", x.lay(), 2);
+        stand("lay()", x, 0, 10, -1, 1, 1, 0, 2, 0, 1, 3, 3, 0);
     }
 
     // ---- 42
@@ -389,19 +408,27 @@ public final class EdgesOfActsTest {
         }
     }
 
-    static void promise42_chance_draw2LetsAPointGo() {
-        int seed = seedThatDraws(2);
-        ScaleNets like = new ScaleNets();
-        like.seed(seed);
-        drawn(like, 3);
-        int k = drawn(like, 3);
+    /** Each seed that draws a 2: the one that goes is the k-th of those that there are, by a DRAW of how many. */
+    static void promise42_chance_draw2LetsTheKthGo() {
+        for (int seed = 0; seed < 60; seed++) {
+            ScaleNets like = new ScaleNets();
+            like.seed(seed);
+            if (drawn(like, 3) == 2) {
+                kthGoes(seed, drawn(like, 3));
+            }
+        }
+    }
+
+    private static void kthGoes(int seed, int k) {
         ScaleNets x = Check.of(Check.FOUR);
-        x.drop(1);
+        x.drop(0);
         x.seed(seed);
-        int goes = x.net(0, k);
-        CHECK.due("chance(1)", x.chance(1), 2);
-        CHECK.due("that one, rising, went", x.point(goes, 3), -1);
+        CHECK.due("chance(1) by seed " + seed, x.chance(1), 2);
+        CHECK.due("that one, rising, went", x.point(k + 1, 3), -1);
         CHECK.due("the seed behind two draws", x.has(6), seedBehind(seed, 2));
+        ScaleNets one = Check.of(ONE);
+        one.seed(seed);
+        CHECK.due("the only one goes by any draw", one.chance(1), 0);
     }
 
     static void promise42_chance_noneToGoIsADrawOf1() {

@@ -174,6 +174,21 @@ public final class EdgesOfAllTogetherTest {
         row("thin", new int[] {x.thin(0), x.thin(1), x.thin(2), x.thin(3)}, 0, 1, 3, 2);
     }
 
+    static void promise27_thin_number0NeedNotBeAhead() {
+        ScaleNets x = Edges.rootIsOne(1, 0, 0);
+        x.add(100, 0, 0);
+        row("thin", new int[] {x.thin(0), x.thin(1), x.thin(2)}, 1, 2, 0);
+    }
+
+    static void promise27_thin_asThePointsAreByNow() {
+        ScaleNets x = Check.of(Check.FOUR);
+        CHECK.due("thin(1)", x.thin(1), 3);
+        x.move(1, 0, 0, 200);
+        CHECK.due("thin(1) behind a move", x.thin(1), 1);
+        x.drop(1);
+        row("thin behind a drop", new int[] {x.thin(0), x.thin(1), x.thin(2), x.thin(3)}, 0, 3, 2, -1);
+    }
+
     static void promise27_thin_withoutPointsAndOfOne() {
         for (ScaleNets x : withoutPoints()) {
             CHECK.due("thin(0)", x.thin(0), -1);
@@ -227,6 +242,14 @@ public final class EdgesOfAllTogetherTest {
         ScaleNets x = Check.of("set by sum;point a at 0 0 0;point b at 5 0 0;point c at 11 0 0;point d at 41 0 0;");
         row("link(2, ..)", link(x, 2), 2, 3, 30);
         CHECK.due("all together", x.link(-1, 0), 41);
+    }
+
+    static void promise28_link_asThePointsAreByNow() {
+        ScaleNets x = Check.of(Check.FOUR);
+        CHECK.due("all together", x.link(-1, 0), 13);
+        x.drop(3);
+        CHECK.due("all together behind a drop", x.link(-1, 0), 4);
+        row("link(2, ..) behind a drop", link(x, 2), -1, -1, -1);
     }
 
     static void promise28_link_otherWhats() {
@@ -288,6 +311,18 @@ public final class EdgesOfAllTogetherTest {
         ScaleNets far = Check.of("set by sum;point a at 0 0 0;point b at 255 255 255;");
         CHECK.due("groups(764)", far.groups(764), 2);
         CHECK.due("groups(765)", far.groups(765), 1);
+    }
+
+    static void promise30_groups_asThePointsAreByNow() {
+        ScaleNets x = Check.of(Check.FOUR);
+        CHECK.due("groups(9)", x.groups(9), 1);
+        x.drop(1);
+        // Left are a, c and d: 4, 9 and 13 from one another.
+        CHECK.due("groups(3) behind a drop", x.groups(3), 3);
+        CHECK.due("groups(4) behind a drop", x.groups(4), 2);
+        CHECK.due("groups(9) behind a drop", x.groups(9), 1);
+        x.move(2, 100, 0, 0);
+        CHECK.due("groups(9) behind a move", x.groups(9), 2);
     }
 
     static void promise30_groups_noSuchLength() {

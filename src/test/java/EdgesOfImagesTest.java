@@ -249,6 +249,10 @@ public final class EdgesOfImagesTest {
         none("a parent of its own level", Edges.checked(1, 3, 0, 0, 0, 0, 10, 255, 1, 10, 0, 0, 3, 0, 2, 10, 10, 0, 3, 1));
         taken("the same with the root", Edges.checked(1, 3, 0, 0, 0, 0, 10, 255, 1, 10, 0, 0, 3, 0, 2, 10, 10, 0, 3, 0));
         none("each the other's", Edges.checked(1, 3, 0, 0, 0, 0, 10, 255, 1, 10, 0, 0, 3, 2, 2, 10, 10, 0, 3, 1));
+        none("number 0 without a parent", Edges.checked(1, 2, 0, 10, 0, 0, 3, 255, 1, 0, 0, 0, 10, 255));
+        none("number 0 too far from its parent", Edges.checked(1, 2, 0, 10, 0, 0, 2, 1, 1, 0, 0, 0, 10, 255));
+        none("number 0 too near to the root", Edges.checked(1, 2, 0, 10, 0, 0, 4, 1, 1, 0, 0, 0, 10, 255));
+        taken("number 0 below 1", Edges.checked(1, 2, 0, 10, 0, 0, 3, 1, 1, 0, 0, 0, 10, 255));
         none("a parent of a lower level", Edges.checked(1, 3, 0, 0, 0, 0, 10, 255, 1, 10, 0, 0, 3, 2, 2, 10, 4, 0, 2, 1));
     }
 

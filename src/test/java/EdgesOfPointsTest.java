@@ -22,14 +22,6 @@ public final class EdgesOfPointsTest {
         return Check.of("set by " + measure + ";point r at 0 0 0;point p at " + place + ";");
     }
 
-    /** The root is number 1, as number 0 went and came again elsewhere. */
-    private static ScaleNets rootIsOne(int x, int y, int z) {
-        ScaleNets nets = Check.of("set by most;point x at 200 200 200;point a at 0 0 0;");
-        nets.drop(0);
-        nets.add(x, y, z);
-        return nets;
-    }
-
     // ---- 6
 
     static void promise06_has_withoutASet() {
@@ -49,6 +41,7 @@ public final class EdgesOfPointsTest {
     static void promise06_has_theLeastAndTheMostThatTheGreatestLevelCanBe() {
         CHECK.due("has(3) at FAR 1", twoBySum(1).has(3), 0);
         CHECK.due("has(3) at FAR 765", twoBySum(765).has(3), 9);
+        CHECK.due("has(3) of number 0, not the root", Edges.rootIsOne(20, 0, 0).has(3), 4);
     }
 
     static void promise06_has_fortyPoints() {
@@ -185,7 +178,7 @@ public final class EdgesOfPointsTest {
     }
 
     static void promise09_point_ofLikeNearOnesTheLeastNumberIsTheParent() {
-        ScaleNets x = rootIsOne(20, 0, 0);
+        ScaleNets x = Edges.rootIsOne(20, 0, 0);
         CHECK.due("add", x.add(10, 0, 0), 2);
         CHECK.due("level of 2", x.point(2, 3), 3);
         CHECK.due("parent of 2: as near to the root, 1", x.point(2, 4), 0);
@@ -193,7 +186,7 @@ public final class EdgesOfPointsTest {
 
     static void promise09_point_theRootHasNoParent() {
         CHECK.due("point(0, 4) of one", Check.of("set by sum;point a at 1 2 3;").point(0, 4), -1);
-        CHECK.due("point(1, 4)", rootIsOne(20, 0, 0).point(1, 4), -1);
+        CHECK.due("point(1, 4)", Edges.rootIsOne(20, 0, 0).point(1, 4), -1);
     }
 
     static void promise09_point_from0To39ChildrenAndBelow() {
@@ -203,6 +196,8 @@ public final class EdgesOfPointsTest {
         CHECK.due("below the root", x.point(0, 6), 39);
         CHECK.due("children of the last", x.point(39, 5), 0);
         CHECK.due("below the last", x.point(39, 6), 0);
+        CHECK.due("children of a root that is not 0", Edges.rootIsOne(20, 0, 0).point(1, 5), 1);
+        CHECK.due("below a root that is not 0", Edges.rootIsOne(20, 0, 0).point(1, 6), 1);
     }
 
     static void promise09_point_belowReachesDownTenLevels() {
@@ -263,6 +258,7 @@ public final class EdgesOfPointsTest {
         CHECK.due("child(0, 38)", x.child(0, 38), 39);
         CHECK.each("child(0, k)", Edges.noWhat(38), k -> x.child(0, k), -1);
         CHECK.due("child(39, 0) of one without", x.child(39, 0), -1);
+        CHECK.due("child(1, 0) that is number 0", Edges.rootIsOne(20, 0, 0).child(1, 0), 0);
     }
 
     static void promise11_child_theHighestLevelFirst() {
@@ -413,6 +409,8 @@ public final class EdgesOfPointsTest {
         }
         CHECK.due("loose(9, 0)", x.loose(9, 0), 765);
         CHECK.due("loose(10, 0)", x.loose(10, 0), -1);
+        ScaleNets like = Check.of("set by most;point r at 0 0 0;point p at 100 0 0;point q at 100 64 0;");
+        CHECK.due("loose(6, 0) of two that are just of it", like.loose(6, 0), 64);
     }
 
     static void promise15_loose_mostFarFromAbove() {

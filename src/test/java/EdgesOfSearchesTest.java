@@ -20,14 +20,6 @@ public final class EdgesOfSearchesTest {
         return x.proves(place >> 16 & 255, place >> 8 & 255, place & 255, d);
     }
 
-    /** The root is number 1, at 0 0 0; number 0 is at 20 0 0. */
-    private static ScaleNets rootIsOne() {
-        ScaleNets x = Check.of("set by most;point x at 200 200 200;point a at 0 0 0;");
-        x.drop(0);
-        x.add(20, 0, 0);
-        return x;
-    }
-
     // ---- 17
 
     static void promise17_seek_withoutPoints() {
@@ -60,7 +52,7 @@ public final class EdgesOfSearchesTest {
     }
 
     static void promise17_seek_ofLikeOnesTheLeastNumber() {
-        ScaleNets x = rootIsOne();
+        ScaleNets x = Edges.rootIsOne(20, 0, 0);
         CHECK.due("as near to 0 as to the root, 1", x.seek(10, 0, 0), 0);
         CHECK.due("one step nearer to the root", x.seek(9, 0, 0), 1);
         CHECK.due("one step nearer to 0", x.seek(11, 0, 0), 0);
@@ -136,6 +128,20 @@ public final class EdgesOfSearchesTest {
         x.seek(5, 0, 0);
         found("a later seek", x, 1, 4, 0, 0);
         CHECK.due("pruned(0, 0)", x.pruned(0, 0), -1);
+    }
+
+    /** 2 is the child of the root, 1; 0 that of 2, 3 that of 0: the first seek goes down to 3, the next one not even to 0. */
+    static void promise18_found_nothingOfAnEarlierSeekGoesOn() {
+        ScaleNets x = Edges.rootIsOne(200, 200, 200);
+        x.add(64, 0, 0);
+        x.move(0, 72, 0, 0);
+        x.add(73, 0, 0);
+        CHECK.due("parent of 0", x.point(0, 4), 2);
+        CHECK.due("parent of 3", x.point(3, 4), 0);
+        CHECK.due("seek at 3", x.seek(73, 0, 0), 3);
+        CHECK.due("seek at the root", x.seek(0, 0, 0), 1);
+        found("seek at the root", x, 0, 2, 1, 2);
+        pruned("seek at the root", x, 0, 2, 6, 64, 2);
     }
 
     static void promise18_found_otherWhats() {
@@ -325,6 +331,15 @@ public final class EdgesOfSearchesTest {
         CHECK.due("all but the root", proves(Edges.star(), 0, 0, 0, 3), 39);
     }
 
+    static void promise20_proves_eachRowSparesItsOwn() {
+        ScaleNets x = Check.of("set by most;point r at 0 0 0;point a at 20 0 0;point b at 21 0 0;point c at 0 64 0;point d at 0 65 0;");
+        CHECK.due("c at 6", proves(x, 0, 0, 3, 6), 1);
+        CHECK.due("c at 6, a at 4", proves(x, 0, 0, 3, 6, 1, 4), 2);
+        CHECK.due("a at 4, c at 6", proves(x, 0, 0, 1, 4, 3, 6), 2);
+        CHECK.due("a last row that is none", proves(x, 0, 0, 1, 4, 3, 7), -1);
+        CHECK.due("a first row that is none", proves(x, 0, 0, 1, 5, 3, 6), -1);
+    }
+
     static void promise20_proves_dFrom0To999() {
         ScaleNets x = Edges.empty("sum");
         CHECK.due("d 0", proves(x, 0, 0), 0);
@@ -353,8 +368,9 @@ public final class EdgesOfSearchesTest {
         ScaleNets x = Edges.rich();
         Edges.leavesAll(CHECK, "a proof", x, 1, y -> proves(y, NINE, 1, 0, 3));
         CHECK.due("feed behind a proof", x.feed(0, 0, 0, 0, 0), 20);
-        Edges.leavesAll(CHECK, "no proof", x, -1, y -> proves(y, NINE, 999));
-        CHECK.due("feed behind no proof", x.feed(0, 0, 0, 0, 0), 20);
+        ScaleNets other = Edges.rich();
+        Edges.leavesAll(CHECK, "no proof", other, -1, y -> proves(y, NINE, 999));
+        CHECK.due("feed behind no proof", other.feed(0, 0, 0, 0, 0), 20);
         x.proves(256, 0, 0, 0);
         CHECK.due("feed behind no place", x.feed(0, 0, 0, 0, 0), 20);
         x.proves(0, 0, 0, 1000);
@@ -377,7 +393,7 @@ public final class EdgesOfSearchesTest {
     }
 
     static void promise21_nth_ofLikeOnesTheLeastNumberFirst() {
-        ScaleNets x = rootIsOne();
+        ScaleNets x = Edges.rootIsOne(20, 0, 0);
         x.add(10, 10, 0);
         CHECK.due("nth 0", x.nth(10, 0, 0, 0), 0);
         CHECK.due("nth 1", x.nth(10, 0, 0, 1), 1);
@@ -387,6 +403,15 @@ public final class EdgesOfSearchesTest {
         for (int k = 0; k < 26; k++) {
             CHECK.due("nth " + (14 + k) + " of the star", star.nth(100, 100, 100, 14 + k), k + 1);
         }
+    }
+
+    static void promise21_nth_ofThoseThatAreThereByNow() {
+        ScaleNets x = Check.of(Check.FOUR);
+        x.drop(0);
+        CHECK.due("nth 0", x.nth(0, 0, 0, 0), 1);
+        CHECK.due("nth 2", x.nth(0, 0, 0, 2), 3);
+        CHECK.due("nth 3", x.nth(0, 0, 0, 3), -1);
+        CHECK.due("within 0 of the one that went", x.within(0, 0, 0, 0), 0);
     }
 
     static void promise21_nth_noSuchPlace() {
@@ -472,7 +497,7 @@ public final class EdgesOfSearchesTest {
     }
 
     static void promise23_remote_ofLikeOnesTheLeastNumber() {
-        ScaleNets x = rootIsOne();
+        ScaleNets x = Edges.rootIsOne(20, 0, 0);
         CHECK.due("as far from 0 as from the root, 1", x.remote(10, 0, 0, 0), 0);
         CHECK.due("one step farther from the root", x.remote(11, 0, 0, 0), 1);
         ScaleNets first = Check.of("set by most;point a at 0 0 0;point b at 20 0 0;");

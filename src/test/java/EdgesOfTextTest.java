@@ -190,18 +190,19 @@ public final class EdgesOfTextTest {
     }
 
     static void promise03_end_oneMoreThanThereAreIsRefused() {
-        ScaleNets x = Edges.rich();
-        Check.tape(x, "set by most;");
-        Edges.refused(CHECK, "end(13) of 12", x, 0, 0, y -> y.end(13) ? 1 : 0);
-        Edges.refused(CHECK, "end(max)", x, 0, 0, y -> y.end(Integer.MAX_VALUE) ? 1 : 0);
-        CHECK.due("set() of all 12", x.set(), 1);
+        endIsRefused(13);
+        endIsRefused(Integer.MAX_VALUE);
     }
 
     static void promise03_end_below0IsRefused() {
+        endIsRefused(-1);
+        endIsRefused(Integer.MIN_VALUE);
+    }
+
+    private static void endIsRefused(int n) {
         ScaleNets x = Edges.rich();
         Check.tape(x, "set by most;");
-        Edges.refused(CHECK, "end(-1)", x, 0, 0, y -> y.end(-1) ? 1 : 0);
-        Edges.refused(CHECK, "end(min)", x, 0, 0, y -> y.end(Integer.MIN_VALUE) ? 1 : 0);
+        Edges.refused(CHECK, "end(" + n + ") of 12", x, 0, 0, y -> y.end(n) ? 1 : 0);
         CHECK.due("set() of all 12", x.set(), 1);
     }
 
@@ -218,6 +219,23 @@ public final class EdgesOfTextTest {
         CHECK.due("end(11)", x.end(11), true);
         CHECK.due("end(12): they do not come back", x.end(12), false);
         CHECK.due("set() of the first 11", x.set(), 1);
+    }
+
+    static void promise03_end_theFirstBytesAlone() {
+        String text = TO_PLACE + "1 2 34;";
+        ScaleNets x = new ScaleNets();
+        for (int n : new int[] {10, 18, 28}) {
+            Check.tape(x, text);
+            x.end(n);
+            CHECK.due("set() of the first " + n, x.set(), -1);
+            CHECK.due("fault(1) of the first " + n, x.fault(1), n);
+        }
+        Check.tape(x, text);
+        x.end(text.length());
+        CHECK.due("set() of all", x.set(), 2);
+        Check.tape(x, "ab");
+        x.end(1);
+        CHECK.due("named by the first letter", x.named(), 0);
     }
 
     // ---- 4: the text
@@ -247,6 +265,14 @@ public final class EdgesOfTextTest {
         CHECK.due("sum", right("set by sum;", 1).has(1), 0);
         CHECK.due("most", right("set by most;", 1).has(1), 1);
         CHECK.due("bits", right("set by bits;", 1).has(1), 2);
+        ScaleNets x = new ScaleNets();
+        String[] words = {"bits", "sum", "most", "sum", "bits", "most"};
+        int[] measures = {2, 0, 1, 0, 2, 1};
+        for (int i = 0; i < words.length; i++) {
+            Check.tape(x, "set by " + words[i] + ";");
+            x.set();
+            CHECK.due(words[i] + " behind another", x.has(1), measures[i]);
+        }
         for (String other : new String[] {"set", "by", "point", "at", "su", "sums", "mos", "mosts", "bit", "bitsa", "x", "0", ";"}) {
             wrong("set by " + other + ";", 1, 7);
         }
@@ -668,11 +694,15 @@ public final class EdgesOfTextTest {
     }
 
     static void promise08_named_byteByByteNothingElse() {
-        ScaleNets x = Check.of(TO_NAME + "a at 0 0 0;point z at 1 1 1;");
-        for (String other : new String[] {"a ", " a", "a\n", "a;", "A", "`", "{", "a`", "\u00e1", "a\u0000"}) {
+        StringBuilder text = new StringBuilder("set by sum;");
+        for (char name = 'a'; name <= 'z'; name++) {
+            text.append("point ").append(name).append(" at 0 0 ").append((int) name).append(';');
+        }
+        ScaleNets x = Check.of(text.toString());
+        for (String other : new String[] {"", "aaaaaaa", "a ", " a", "a\n", "a;", "A", "`", "{", "a`", "\u00e1", "a\u0000"}) {
             CHECK.due("named '" + other + "'", named(x, other), -1);
         }
-        CHECK.due("z", named(x, "z"), 1);
+        CHECK.due("z", named(x, "z"), 25);
         for (String own : OWN_WORDS) {
             CHECK.due("named " + own, named(x, own), -1);
         }
@@ -681,9 +711,10 @@ public final class EdgesOfTextTest {
     static void promise08_named_theTapeGoesAndNothingIsRefused() {
         ScaleNets x = Edges.rich();
         Edges.leavesAll(CHECK, "named b", x, 1, y -> named(y, "b"));
-        CHECK.due("feed", x.feed(0, 0, 0, 0, 0), 20);
-        Edges.leavesAll(CHECK, "named nobody", x, -1, y -> named(y, "nobody"));
-        CHECK.due("feed", x.feed(0, 0, 0, 0, 0), 20);
+        CHECK.due("feed behind b", x.feed(0, 0, 0, 0, 0), 20);
+        ScaleNets other = Edges.rich();
+        Edges.leavesAll(CHECK, "named nobody", other, -1, y -> named(y, "nobody"));
+        CHECK.due("feed behind nobody", other.feed(0, 0, 0, 0, 0), 20);
     }
 
     static void promise08_named_aNameGoesAndComesWithItsPoint() {

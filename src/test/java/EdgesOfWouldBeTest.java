@@ -100,6 +100,13 @@ public final class EdgesOfWouldBeTest {
         row("comes one step nearer to 1", comes(x, 9, 0, 0), 3, 1);
     }
 
+    static void promise31_comes_theParentIsOfTheNetOfOneLevelUp() {
+        // e is nearest, but of its own LEVEL, 3; of the NET of 4 is a alone.
+        ScaleNets x = Check.of("set by most;point a at 0 0 0;point e at 12 0 0;");
+        CHECK.due("level of e", x.point(1, 3), 3);
+        row("comes", comes(x, 13, 10, 0), 3, 0);
+    }
+
     static void promise31_comes_otherWhats() {
         ScaleNets x = Check.of(Check.FOUR);
         CHECK.each("comes(9, 9, 9, what)", Edges.noWhat(1), what -> x.comes(9, 9, 9, what), -1);
@@ -130,6 +137,7 @@ public final class EdgesOfWouldBeTest {
         ScaleNets star = Edges.star();
         CHECK.due("all of the star have another parent", star.goes(0, 0), 39);
         CHECK.due("the root of the star then", star.goes(0, 2), 1);
+        row("the root, 1, and number 0 is left", goes(Edges.rootIsOne(20, 0, 0), 1), 1, 1, 0);
     }
 
     static void promise32_goes_anotherParentButNotAnotherLevel() {
@@ -186,6 +194,20 @@ public final class EdgesOfWouldBeTest {
         ScaleNets x = Check.of(Check.FOUR);
         x.drop(0);
         // d is the ROOT with b of LEVEL 3; anew b is, and d of LEVEL 3. c stays with b.
+        CHECK.due("anew(0)", x.anew(0), 2);
+        CHECK.due("anew(1)", x.anew(1), 2);
+        ScaleNets one = Edges.rootIsOne(20, 0, 0);
+        CHECK.due("anew(0), number 0 and the root, 1", one.anew(0), 2);
+        CHECK.due("anew(1), number 0 and the root, 1", one.anew(1), 2);
+    }
+
+    static void promise33_anew_toLevel0() {
+        ScaleNets x = Check.of(Check.FOUR);
+        x.drop(1);
+        x.add(3, 0, 0);
+        // c rose to 2 and b came below it at 0; anew b is of 1 below a, and c of 0 below b.
+        CHECK.due("level of b", x.point(1, 3), 0);
+        CHECK.due("level of c", x.point(2, 3), 2);
         CHECK.due("anew(0)", x.anew(0), 2);
         CHECK.due("anew(1)", x.anew(1), 2);
     }
@@ -304,6 +326,15 @@ public final class EdgesOfWouldBeTest {
         row("fits without points", fits(Edges.empty("most")), 3, 0, 1, 2, -1);
     }
 
+    static void promise35_fits_theKthWithoutTheirNumberAhead() {
+        ScaleNets x = Check.of(Check.FOUR);
+        see(x, 0, 1, 0, 2);
+        CHECK.due("fits(0)", x.fits(0), 2);
+        x.drop(1);
+        CHECK.due("fits(0) behind a drop", x.fits(0), 0);
+        CHECK.due("fits(2) behind a drop", x.fits(2), 2);
+    }
+
     static void promise35_fits_noSuchK() {
         ScaleNets x = Check.of(Check.FOUR);
         CHECK.each("fits", NO_K_OF_THREE, x::fits, -1);
@@ -400,6 +431,11 @@ public final class EdgesOfWouldBeTest {
         ScaleNets like = Check.of("set by sum;point a at 0 0 0;point b at 3 0 0;");
         see(like, 0, 1, 0, 3);
         row("two left of two", tells(like), 0, 1, 2);
+        for (int far : new int[] {12, 9, 4}) {
+            see(x, 1, 3, 0, far);
+            CHECK.due("fits(NONE) by " + far, x.fits(-1), 1);
+            row("one left of one, by " + far, tells(x), 0, 1, 1);
+        }
     }
 
     static void promise36_tells_ofForty() {
