@@ -1,4 +1,5 @@
 import java.util.Arrays;
+import java.util.Comparator;
 import java.util.function.ToIntFunction;
 
 /** Objects at the edges of the document, and what is asked of a refused call, for the Edges..Test. */
@@ -68,6 +69,22 @@ final class Edges {
         nets.drop(0);
         nets.add(x, y, z);
         return nets;
+    }
+
+    /** The points of Check.FOUR, without names, by other numbers: those of a, b, c and d. */
+    static ScaleNets fourAt(int a, int b, int c, int d) {
+        int[][] rows = {{a, 0, 0, 0, 10, 255}, {b, 3, 0, 0, 1, a}, {c, 4, 0, 0, 0, b}, {d, 0, 9, 0, 3, a}};
+        Arrays.sort(rows, Comparator.comparingInt(row -> row[0]));
+        int[] all = {0, 4};
+        for (int[] row : rows) {
+            int ahead = all.length;
+            all = Arrays.copyOf(all, ahead + 6);
+            System.arraycopy(row, 0, all, ahead, 6);
+        }
+        ScaleNets x = empty("sum");
+        Check.tape(x, checked(all));
+        x.on();
+        return x;
     }
 
     /** All that can be kept is there: names, a row seen, a search, an image, a seed, two acts. */

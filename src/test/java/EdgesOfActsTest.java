@@ -191,6 +191,18 @@ public final class EdgesOfActsTest {
         CHECK.due("parent of c", x.point(2, 4), 1);
     }
 
+    static void promise38_drop_ofTheLastNumbers() {
+        ScaleNets x = Edges.fourAt(36, 37, 38, 39);
+        x.drop(36);
+        stand("drop(36)", x, 37, 3, 39, 38, 0, 37, 39, 10, -1);
+        ScaleNets y = Edges.fourAt(39, 38, 37, 36);
+        y.drop(39);
+        stand("drop(39)", y, 36, 10, -1, 37, 0, 38, 38, 3, 36);
+        ScaleNets z = Edges.fourAt(36, 37, 39, 38);
+        z.drop(37);
+        stand("drop(37)", z, 36, 10, -1, 38, 3, 36, 39, 2, 36);
+    }
+
     // ---- 39
 
     static void promise39_move_whereOneIsIsRefused() {
@@ -328,6 +340,15 @@ public final class EdgesOfActsTest {
         CHECK.due("lay() again", x.lay(), 0);
         CHECK.due("letter(3, 0)", x.letter(3, 0), 4);
         CHECK.due("lay(), number 0 and the root, 1", Edges.rootIsOne(20, 0, 0).lay(), 2);
+    }
+
+    static void promise41_lay_ofTheLastNumbers() {
+        CHECK.due("lay() as they are", Edges.fourAt(36, 37, 38, 39).lay(), 0);
+        ScaleNets x = Edges.fourAt(36, 37, 39, 38);
+        x.drop(36);
+        // d, 38, is the root and b, 37, of LEVEL 3; anew b is the root and d of 3, and c, 39, stays at 0.
+        CHECK.due("lay()", x.lay(), 2);
+        stand("lay()", x, 37, 10, -1, 38, 3, 37, 39, 0, 37);
     }
 
     static void promise41_lay_toLevel0() {

@@ -76,6 +76,14 @@ public final class EdgesOfAllTogetherTest {
         row("centers(2, ..)", centers(x, 2), 2, 3, 3);
     }
 
+    static void promise24_centers_ofTheLastNumbers() {
+        ScaleNets x = Edges.fourAt(36, 37, 38, 39);
+        row("centers(1, ..)", centers(x, 1), 9, 39, 4);
+        row("centers(2, ..)", centers(x, 2), 4, 38, 3);
+        row("centers(4, ..): the first is 36", centers(x, 4), 0, 36, 1);
+        row("centers(1, ..) of 39", centers(Edges.fourAt(39, 38, 37, 36), 1), 9, 36, 4);
+    }
+
     static void promise24_centers_otherWhats() {
         ScaleNets x = Check.of(Check.FOUR);
         CHECK.each("centers(1, what)", Edges.noWhat(2), what -> x.centers(1, what), -1);
@@ -105,6 +113,11 @@ public final class EdgesOfAllTogetherTest {
         ScaleNets forty = Check.of(Edges.fortyPoints());
         CHECK.due("center(19, 2)", forty.center(19, 2), 0);
         CHECK.due("center(20, 2)", forty.center(20, 2), 39);
+    }
+
+    static void promise25_center_theLastNumber() {
+        CHECK.due("center(37, 1)", Edges.fourAt(39, 38, 37, 36).center(37, 1), 39);
+        CHECK.due("center(39, 2)", Edges.fourAt(36, 37, 38, 39).center(39, 2), 39);
     }
 
     static void promise25_center_ofNoPoint() {
@@ -145,6 +158,24 @@ public final class EdgesOfAllTogetherTest {
         row("0, 2 and 1, 2", pairs(Check.of("set by sum;point a at 0 0 0;point b at 20 0 0;point c at 10 0 0;")), 0, 2, 10, 0, 1, 20);
     }
 
+    static void promise26_pair_ofTheLastNumbers() {
+        row("b and c are closest", pairs(Edges.fourAt(36, 38, 39, 37)), 38, 39, 1, 37, 39, 13);
+        row("c and d are widest", pairs(Edges.fourAt(36, 37, 38, 39)), 37, 38, 1, 38, 39, 13);
+    }
+
+    static void promise26_pair_ofThoseThatAreThereByNow() {
+        ScaleNets x = Check.of(Check.FOUR);
+        x.drop(2);
+        row("pair without 2", pairs(x), 0, 1, 3, 1, 3, 12);
+        x.drop(3);
+        row("pair without 2 and 3", pairs(x), 0, 1, 3, 0, 1, 3);
+        ScaleNets y = Check.of(Check.FOUR);
+        y.drop(1);
+        row("pair without 1", pairs(y), 0, 2, 4, 2, 3, 13);
+        y.drop(3);
+        row("pair without 1 and 3", pairs(y), 0, 2, 4, 0, 2, 4);
+    }
+
     static void promise26_pair_otherWhats() {
         CHECK.each("pair", Edges.noWhat(5), Check.of(Check.FOUR)::pair, -1);
     }
@@ -178,6 +209,12 @@ public final class EdgesOfAllTogetherTest {
         ScaleNets x = Edges.rootIsOne(1, 0, 0);
         x.add(100, 0, 0);
         row("thin", new int[] {x.thin(0), x.thin(1), x.thin(2)}, 1, 2, 0);
+    }
+
+    static void promise27_thin_ofTheLastNumbers() {
+        ScaleNets x = Edges.fourAt(36, 37, 39, 38);
+        row("thin", new int[] {x.thin(0), x.thin(1), x.thin(2), x.thin(3)}, 36, 38, 39, 37);
+        CHECK.due("thin(0) of 39", Edges.fourAt(39, 38, 37, 36).thin(0), 39);
     }
 
     static void promise27_thin_asThePointsAreByNow() {
@@ -252,6 +289,13 @@ public final class EdgesOfAllTogetherTest {
         row("link(2, ..) behind a drop", link(x, 2), -1, -1, -1);
     }
 
+    static void promise28_link_ofTheLastNumbers() {
+        ScaleNets x = Edges.fourAt(36, 37, 38, 39);
+        row("link(2, ..)", link(x, 2), 36, 39, 9);
+        row("link(0, ..)", link(Edges.fourAt(36, 38, 39, 37), 0), 38, 39, 1);
+        CHECK.due("all together", x.link(-1, 0), 13);
+    }
+
     static void promise28_link_otherWhats() {
         ScaleNets x = Check.of(Check.FOUR);
         CHECK.each("link(0, what)", Edges.noWhat(2), what -> x.link(0, what), -1);
@@ -286,6 +330,14 @@ public final class EdgesOfAllTogetherTest {
         CHECK.due("group(39, 1) with a gap", x.group(39, 1), 21);
         CHECK.due("group(19, 1)", x.group(19, 1), 0);
         CHECK.due("group(39, 2)", x.group(39, 2), 0);
+    }
+
+    static void promise29_group_ofTheLastNumbers() {
+        ScaleNets x = Edges.fourAt(36, 37, 38, 39);
+        CHECK.due("group(39, 8)", x.group(39, 8), 39);
+        CHECK.due("group(39, 9)", x.group(39, 9), 36);
+        CHECK.due("groups(8)", x.groups(8), 2);
+        CHECK.due("group(39, 1)", Edges.fourAt(36, 38, 39, 37).group(39, 1), 38);
     }
 
     static void promise29_group_ofNoPoint() {
@@ -323,6 +375,12 @@ public final class EdgesOfAllTogetherTest {
         CHECK.due("groups(9) behind a drop", x.groups(9), 1);
         x.move(2, 100, 0, 0);
         CHECK.due("groups(9) behind a move", x.groups(9), 2);
+        ScaleNets y = Check.of(Check.FOUR);
+        CHECK.due("groups(9)", y.groups(9), 1);
+        y.drop(1);
+        y.move(3, 0, 200, 0);
+        CHECK.due("groups(9) behind a drop and a move", y.groups(9), 2);
+        CHECK.due("group(3, 9) behind a drop and a move", y.group(3, 9), 3);
     }
 
     static void promise30_groups_noSuchLength() {

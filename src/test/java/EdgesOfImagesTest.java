@@ -249,6 +249,11 @@ public final class EdgesOfImagesTest {
         none("a parent of its own level", Edges.checked(1, 3, 0, 0, 0, 0, 10, 255, 1, 10, 0, 0, 3, 0, 2, 10, 10, 0, 3, 1));
         taken("the same with the root", Edges.checked(1, 3, 0, 0, 0, 0, 10, 255, 1, 10, 0, 0, 3, 0, 2, 10, 10, 0, 3, 0));
         none("each the other's", Edges.checked(1, 3, 0, 0, 0, 0, 10, 255, 1, 10, 0, 0, 3, 2, 2, 10, 10, 0, 3, 1));
+        none("number 39 without a parent", Edges.checked(1, 2, 0, 0, 0, 0, 10, 255, 39, 10, 0, 0, 3, 255));
+        none("number 39 too far from its parent", Edges.checked(1, 2, 0, 0, 0, 0, 10, 255, 39, 10, 0, 0, 2, 0));
+        none("number 39 too near to the root", Edges.checked(1, 2, 0, 0, 0, 0, 10, 255, 39, 10, 0, 0, 4, 0));
+        taken("number 39 below 0", Edges.checked(1, 2, 0, 0, 0, 0, 10, 255, 39, 10, 0, 0, 3, 0));
+        taken("number 38 below 39", Edges.checked(1, 2, 38, 10, 0, 0, 3, 39, 39, 0, 0, 0, 10, 255));
         none("number 0 without a parent", Edges.checked(1, 2, 0, 10, 0, 0, 3, 255, 1, 0, 0, 0, 10, 255));
         none("number 0 too far from its parent", Edges.checked(1, 2, 0, 10, 0, 0, 2, 1, 1, 0, 0, 0, 10, 255));
         none("number 0 too near to the root", Edges.checked(1, 2, 0, 10, 0, 0, 4, 1, 1, 0, 0, 0, 10, 255));

@@ -91,6 +91,11 @@ public final class EdgesOfPointsTest {
         CHECK.due("has(6)", x.has(6), Integer.MAX_VALUE);
     }
 
+    static void promise06_has_ofTheLastNumbers() {
+        has(Edges.fourAt(36, 37, 38, 39), "36 to 39", 4, 0, 36, 3, 0, 0, 1);
+        has(Edges.fourAt(39, 38, 37, 36), "39 to 36", 4, 0, 39, 3, 0, 0, 1);
+    }
+
     static void promise06_has_otherWhats() {
         CHECK.each("has", Edges.noWhat(6), Check.of(Check.FOUR)::has, -1);
         CHECK.each("has", Edges.noWhat(6), new ScaleNets()::has, -1);
@@ -208,6 +213,19 @@ public final class EdgesOfPointsTest {
         }
     }
 
+    static void promise09_point_theLastNumberAsParentAndChild() {
+        ScaleNets x = Edges.fourAt(39, 38, 37, 36);
+        CHECK.due("children of 39", x.point(39, 5), 2);
+        CHECK.due("below 39", x.point(39, 6), 3);
+        CHECK.due("add beside it", x.add(1, 0, 0), 0);
+        CHECK.due("parent of 0", x.point(0, 4), 39);
+        ScaleNets y = Edges.fourAt(36, 37, 38, 39);
+        CHECK.due("parent of 39", y.point(39, 4), 36);
+        CHECK.due("add beside 39", y.add(0, 10, 0), 0);
+        CHECK.due("parent of 0", y.point(0, 4), 39);
+        CHECK.due("below 36", y.point(36, 6), 4);
+    }
+
     // ---- 10
 
     static void promise10_at_theCornersOfAllPlaces() {
@@ -278,6 +296,12 @@ public final class EdgesOfPointsTest {
         }
     }
 
+    static void promise11_child_ofTheLastNumbers() {
+        CHECK.due("child(36, 0)", Edges.fourAt(36, 37, 38, 39).child(36, 0), 39);
+        CHECK.due("child(39, 0)", Edges.fourAt(39, 38, 37, 36).child(39, 0), 36);
+        CHECK.due("child(39, 1)", Edges.fourAt(39, 38, 37, 36).child(39, 1), 38);
+    }
+
     static void promise11_child_ofNoPoint() {
         ScaleNets x = Check.of(Check.FOUR);
         CHECK.each("child(p, 0)", Edges.NO_POINT_OF_FOUR, p -> x.child(p, 0), -1);
@@ -343,6 +367,13 @@ public final class EdgesOfPointsTest {
         CHECK.due("net(0, 0)", x.net(0, 0), 1);
         CHECK.due("net(0, 1)", x.net(0, 1), 3);
         CHECK.due("net(10, 0)", x.net(10, 0), 3);
+    }
+
+    static void promise13_net_ofTheLastNumbers() {
+        CHECK.due("net(3, 1)", Edges.fourAt(36, 37, 38, 39).net(3, 1), 39);
+        CHECK.due("net(10, 0)", Edges.fourAt(39, 38, 37, 36).net(10, 0), 39);
+        CHECK.due("net(10, NONE)", Edges.fourAt(39, 38, 37, 36).net(10, -1), 1);
+        CHECK.due("above(37, 10)", Edges.fourAt(39, 38, 37, 36).above(37, 10), 39);
     }
 
     static void promise13_net_withoutPoints() {
@@ -458,6 +489,26 @@ public final class EdgesOfPointsTest {
         CHECK.due("loose(1, 2) of forty", Edges.star().loose(1, 2), 40);
     }
 
+    static void promise15_loose_ofTheLastNumbers() {
+        ScaleNets x = Edges.fourAt(36, 37, 38, 39);
+        CHECK.due("loose(3, 0)", x.loose(3, 0), 9);
+        CHECK.due("loose(4, 1)", x.loose(4, 1), 9);
+        CHECK.due("loose(4, 2)", x.loose(4, 2), 2);
+        ScaleNets y = Edges.fourAt(39, 38, 37, 36);
+        CHECK.due("loose(10, 2)", y.loose(10, 2), 1);
+        CHECK.due("loose(4, 2)", y.loose(4, 2), 2);
+    }
+
+    static void promise15_loose_ofThoseThatAreThereByNow() {
+        ScaleNets x = Check.of(Check.FOUR);
+        x.drop(1);
+        CHECK.due("loose(0, 0)", x.loose(0, 0), 4);
+        x.drop(2);
+        CHECK.due("loose(0, 0)", x.loose(0, 0), 9);
+        CHECK.due("loose(0, 2)", x.loose(0, 2), 1);
+        CHECK.due("loose(10, 1)", x.loose(10, 1), 9);
+    }
+
     static void promise15_loose_withoutPoints() {
         for (ScaleNets x : new ScaleNets[] {new ScaleNets(), Edges.empty("sum")}) {
             for (int what = 0; what < 3; what++) {
@@ -504,6 +555,12 @@ public final class EdgesOfPointsTest {
         x.drop(2);
         CHECK.due("most(0): 1 has 0, and 0 has 3", x.most(0), 1);
         CHECK.due("most(1)", x.most(1), 0);
+    }
+
+    static void promise16_most_ofTheLastNumber() {
+        ScaleNets x = Edges.fourAt(39, 38, 37, 36);
+        CHECK.due("most(0)", x.most(0), 2);
+        CHECK.due("most(1)", x.most(1), 39);
     }
 
     static void promise16_most_otherWhats() {

@@ -67,6 +67,12 @@ public final class EdgesOfSearchesTest {
         }
     }
 
+    static void promise17_seek_ofTheLastNumbers() {
+        CHECK.due("seek at d, 39", Edges.fourAt(36, 37, 38, 39).seek(0, 9, 0), 39);
+        CHECK.due("seek at a, 39", Edges.fourAt(39, 38, 37, 36).seek(0, 0, 0), 39);
+        CHECK.due("seek at c, 39", Edges.fourAt(36, 37, 39, 38).seek(4, 0, 0), 39);
+    }
+
     static void promise17_seek_downAllTenLevels() {
         ScaleNets x = Check.of(Edges.CHAIN);
         CHECK.due("seek at the one of level 0", x.seek(255, 171, 85), 10);
@@ -144,6 +150,16 @@ public final class EdgesOfSearchesTest {
         pruned("seek at the root", x, 0, 2, 6, 64, 2);
     }
 
+    /** The same by other numbers: 37 is the child of 36, 39 that of 37, 38 that of 39. */
+    static void promise18_found_nothingOfTheLastNumberGoesOn() {
+        ScaleNets x = Edges.empty("most");
+        Check.tape(x, Edges.checked(1, 4, 36, 0, 0, 0, 10, 255, 37, 64, 0, 0, 6, 36, 38, 73, 0, 0, 0, 39, 39, 72, 0, 0, 3, 37));
+        CHECK.due("on()", x.on(), true);
+        CHECK.due("seek at 38", x.seek(73, 0, 0), 38);
+        CHECK.due("seek at the root", x.seek(0, 0, 0), 36);
+        found("seek at the root", x, 0, 2, 1, 2);
+    }
+
     static void promise18_found_otherWhats() {
         ScaleNets x = Check.of(Check.FOUR);
         x.seek(0, 9, 0);
@@ -207,6 +223,16 @@ public final class EdgesOfSearchesTest {
         found("at 6 and 4", x, 0, 3, 2, 2);
         pruned("at 6 and 4", x, 0, 3, 6, 64, 1);
         pruned("at 6 and 4", x, 1, 1, 4, 20, 1);
+    }
+
+    static void promise19_pruned_ofTheLastNumber() {
+        ScaleNets x = Edges.fourAt(39, 38, 37, 36);
+        x.seek(0, 9, 0);
+        pruned("39 is pruned", x, 0, 39, 3, 9, 2);
+        ScaleNets y = Edges.fourAt(36, 37, 39, 38);
+        y.seek(0, 9, 0);
+        pruned("39 is spared", y, 0, 36, 3, 9, 2);
+        found("39 is spared", y, 0, 2, 1, 2);
     }
 
     static void promise19_pruned_noSuchRow() {
@@ -320,6 +346,9 @@ public final class EdgesOfSearchesTest {
         }
         CHECK.due("a row of the last of four", proves(x, CORNER, 0, 3, 1), 0);
         CHECK.due("a row of the last of forty", proves(Edges.star(), CORNER, 0, 39, 1), 0);
+        CHECK.due("39 spares", proves(Edges.fourAt(39, 38, 37, 36), NINE, 1, 39, 3), 2);
+        CHECK.due("39 is spared", proves(Edges.fourAt(36, 37, 39, 38), NINE, 1, 36, 3), 2);
+        CHECK.due("39 is not, and nearer", proves(Edges.fourAt(39, 38, 37, 36), NINE, 10), -1);
         x.drop(2);
         CHECK.due("a row of one that went", proves(x, CORNER, 0, 2, 1), -1);
     }

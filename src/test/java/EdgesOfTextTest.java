@@ -324,6 +324,8 @@ public final class EdgesOfTextTest {
         wrong(TO_PLACE + "00007 0 0;", 1, 25);
         wrong(TO_PLACE + "1234", 1, 25);
         wrong(TO_PLACE + "2560 0 0;", 1, 25);
+        wrong(TO_PLACE + "1 2 0;point b at 1 2 0000;", 1, 46);
+        wrong(TO_PLACE + "1 2 7;point b at 1 2 0007;", 1, 46);
     }
 
     static void promise04_set_whereANumberIsAskedNothingElse() {
@@ -699,6 +701,7 @@ public final class EdgesOfTextTest {
             text.append("point ").append(name).append(" at 0 0 ").append((int) name).append(';');
         }
         ScaleNets x = Check.of(text.toString());
+        x.add(9, 9, 9);
         for (String other : new String[] {"", "aaaaaaa", "a ", " a", "a\n", "a;", "A", "`", "{", "a`", "\u00e1", "a\u0000"}) {
             CHECK.due("named '" + other + "'", named(x, other), -1);
         }
@@ -723,6 +726,10 @@ public final class EdgesOfTextTest {
         CHECK.due("c that went", named(x, "c"), -1);
         x.undo();
         CHECK.due("c again", named(x, "c"), 2);
+        ScaleNets forty = Check.of(Edges.fortyPoints());
+        forty.drop(39);
+        forty.undo();
+        CHECK.due("the last of forty again", named(forty, "xdj"), 39);
         x.move(2, 50, 50, 50);
         CHECK.due("c that moved", named(x, "c"), 2);
         x.by(1);

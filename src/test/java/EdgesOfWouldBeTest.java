@@ -107,6 +107,11 @@ public final class EdgesOfWouldBeTest {
         row("comes", comes(x, 13, 10, 0), 3, 0);
     }
 
+    static void promise31_comes_belowTheLastNumber() {
+        row("comes beside d, 39", comes(Edges.fourAt(36, 37, 38, 39), 0, 10, 0), 0, 39);
+        row("comes beside a, 39", comes(Edges.fourAt(39, 38, 37, 36), 1, 0, 0), 0, 39);
+    }
+
     static void promise31_comes_otherWhats() {
         ScaleNets x = Check.of(Check.FOUR);
         CHECK.each("comes(9, 9, 9, what)", Edges.noWhat(1), what -> x.comes(9, 9, 9, what), -1);
@@ -151,6 +156,12 @@ public final class EdgesOfWouldBeTest {
         ScaleNets x = Check.of("set by most;point r at 0 0 0;point g at 3 0 0;point p at 2 0 0;");
         CHECK.due("parent of p", x.point(2, 4), 1);
         row("g: r is just 2 from p", goes(x, 1), 1, 1, 0);
+    }
+
+    static void promise32_goes_ofTheLastNumbers() {
+        row("a, and d, 39, is the root", goes(Edges.fourAt(36, 37, 38, 39), 36), 2, 2, 39);
+        row("a, 39", goes(Edges.fourAt(39, 38, 37, 36), 39), 2, 2, 36);
+        row("b, and c, 39, rises", goes(Edges.fourAt(36, 37, 39, 38), 37), 1, 1, 36);
     }
 
     static void promise32_goes_noSuchPoint() {
@@ -199,6 +210,13 @@ public final class EdgesOfWouldBeTest {
         ScaleNets one = Edges.rootIsOne(20, 0, 0);
         CHECK.due("anew(0), number 0 and the root, 1", one.anew(0), 2);
         CHECK.due("anew(1), number 0 and the root, 1", one.anew(1), 2);
+    }
+
+    static void promise33_anew_ofTheLastNumber() {
+        // Anew d, 36, is the root, c, 37, of LEVEL 3 below it; below c are b, 38, of 0 and a, 39, of 2.
+        ScaleNets x = Edges.fourAt(39, 38, 37, 36);
+        CHECK.due("anew(0)", x.anew(0), 4);
+        CHECK.due("anew(1)", x.anew(1), 4);
     }
 
     static void promise33_anew_toLevel0() {
@@ -441,6 +459,20 @@ public final class EdgesOfWouldBeTest {
     static void promise36_tells_ofForty() {
         // In a row sum and most are alike of all; of 0 and 1 bits are, too, of 0 and 2 they are not.
         row("tells", tells(Check.of(Edges.fortyPoints())), 0, 2, 2);
+    }
+
+    static void promise36_tells_ofTheLastNumbers() {
+        row("b and d", tells(Edges.fourAt(36, 37, 38, 39)), 37, 39, 1);
+        row("c and d", tells(Edges.fourAt(36, 37, 39, 38)), 37, 38, 1);
+    }
+
+    static void promise36_tells_ofThoseThatAreThereByNow() {
+        ScaleNets x = Check.of(Check.FOUR);
+        x.drop(3);
+        row("tells without 3", tells(x), 0, 1, 2);
+        x.undo();
+        x.drop(1);
+        row("tells without 1", tells(x), 2, 3, 1);
     }
 
     static void promise36_tells_otherWhats() {
