@@ -175,15 +175,15 @@ public final class ActsTest {
         CHECK.due("status(3)", x.status(3), 3);
         CHECK.due("the seed stays", x.has(6), 1);
         drawn = 1;
-        int[] turns = {1, 2, 40, 40, 40, 40, 40, 40, 40, 40};
+        int[] turns = {1, 2, 40, 40, 40};
         for (int n : turns) {
             for (int i = 0; i < n; i++) {
                 chanceByHand(y);
             }
             CHECK.due("chance(" + n + ")", x.chance(n), y.has(0));
-            CHECK.same("chance(" + n + ")", Check.state(x), Check.state(y));
             CHECK.due("the seed", x.has(6), (int) drawn);
         }
+        CHECK.same("all these", Kept.points(x), Kept.points(y));
         CHECK.due("one act each", x.has(5), turns.length);
         CHECK.due("points come more than they go", x.has(0) > 30, true);
         long seed = drawn;
@@ -211,13 +211,10 @@ public final class ActsTest {
         }
     }
 
-    private static void undoes() {
+    /** FOUR behind so many acts of all kinds. */
+    private static ScaleNets behindActs(int many) {
         ScaleNets x = Check.of(Check.FOUR);
-        CHECK.due("undo() of nothing", x.undo(), false);
-        CHECK.due("status(4)", x.status(4), 1);
-        String[] states = new String[26];
-        for (int i = 0; i < 25; i++) {
-            states[i] = Check.state(x);
+        for (int i = 0; i < many; i++) {
             switch (i % 5) {
                 case 0: x.add(20 * i / 5, 200, 7); break;
                 case 1: x.drop(i / 5); break;
@@ -227,17 +224,33 @@ public final class ActsTest {
             }
             CHECK.due("has(5)", x.has(5), Math.min(20, i + 1));
         }
-        for (int i = 24; i >= 5; i--) {
+        return x;
+    }
+
+    private static ScaleNets undone(ScaleNets x, int times) {
+        for (int i = 0; i < times; i++) {
             CHECK.due("undo()", x.undo(), true);
-            CHECK.same("undo()", Check.state(x), states[i]);
+        }
+        return x;
+    }
+
+    private static void undoes() {
+        ScaleNets none = Check.of(Check.FOUR);
+        CHECK.due("undo() of nothing", none.undo(), false);
+        CHECK.due("status(4)", none.status(4), 1);
+        for (int i = 24; i >= 5; i--) {
+            ScaleNets x = undone(behindActs(25), 25 - i);
+            CHECK.same("undo()", Kept.points(x), Kept.points(behindActs(i)));
             CHECK.due("has(5)", x.has(5), i - 5);
         }
+        String due = Kept.points(behindActs(5));
+        ScaleNets x = undone(behindActs(25), 20);
         CHECK.due("undo() of a 21st", x.undo(), false);
-        CHECK.same("undo()", Check.state(x), states[5]);
-        CHECK.due("status(4)", x.status(4), 2);
+        CHECK.same("undo()", Kept.points(x), due);
+        CHECK.due("status(4)", x.status(4), 1);
         x.add(1, 2, 3);
         CHECK.due("undo() of a new one", x.undo(), true);
-        CHECK.same("undo()", Check.state(x), states[5]);
+        CHECK.same("undo()", Kept.points(x), due);
         // Names come back with their points.
         ScaleNets y = Check.of(Check.FOUR);
         y.drop(2);

@@ -38,23 +38,6 @@ final class Check {
         }
     }
 
-    /** One string with all that can be asked of the points without a change, to see that all stays. */
-    static String state(ScaleNets x) {
-        StringBuilder b = new StringBuilder();
-        for (int what = 0; what < 5; what++) {
-            b.append(x.has(what)).append(' ');
-        }
-        for (int p = 0; p < 40; p++) {
-            for (int what = 0; what < 7; what++) {
-                b.append(x.point(p, what)).append(what < 6 ? "," : " ");
-            }
-            for (int k = 0; k < 6; k++) {
-                b.append(x.letter(p, k)).append(k < 5 ? "." : "; ");
-            }
-        }
-        return b.toString();
-    }
-
     void same(String call, String got, String want) {
         asked++;
         if (!got.equals(want)) {

@@ -52,14 +52,14 @@ public final class ImageTest {
     private static void on(String what, boolean want, int... bytes) {
         ScaleNets x = Check.of("set by most;point q at 50 60 70;");
         x.add(1, 1, 1);
-        String ahead = Check.state(x);
+        String ahead = Edges.points(x);
         Check.tape(x, bytes);
         CHECK.due("on(): " + what, x.on(), want);
         CHECK.due("status(5): " + what, x.status(5), want ? 0 : 1);
         CHECK.due("has(5): " + what, x.has(5), want ? 0 : 1);
         CHECK.due("the tape went: " + what, x.feed(0, 0, 0, 0, 0), 20);
         if (!want) {
-            CHECK.same("on(): " + what, Check.state(x), ahead);
+            CHECK.same("on(): " + what, Edges.points(x), ahead);
         }
     }
 

@@ -152,10 +152,10 @@ public final class TextTest {
         x.seek(5, 0, 0);
         Check.tape(x, 0, 1, 0, 3);
         CHECK.due("see()", x.see(), 1);
-        String ahead = Check.state(x);
+        String ahead = Edges.points(x);
         Check.tape(x, "set by sum;point a at 1 2 256;");
         CHECK.due("a set with a fault", x.set(), -1);
-        CHECK.same("a set with a fault", Check.state(x), ahead);
+        CHECK.same("a set with a fault", Edges.points(x), ahead);
         CHECK.due("found(0) behind it", x.found(0), 1);
         CHECK.due("has(4) behind it", x.has(4), 1);
         CHECK.due("has(5) behind it", x.has(5), 1);

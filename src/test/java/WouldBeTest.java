@@ -4,7 +4,7 @@ public final class WouldBeTest {
 
     private static void comes() {
         ScaleNets x = Check.of(Check.FOUR);
-        String ahead = Check.state(x);
+        String ahead = Edges.points(x);
         CHECK.due("comes(1, 0, 0, 0)", x.comes(1, 0, 0, 0), 0);
         CHECK.due("comes(1, 0, 0, 1)", x.comes(1, 0, 0, 1), 0);
         CHECK.due("comes(255, 255, 255, 0)", x.comes(255, 255, 255, 0), 9);
@@ -16,7 +16,7 @@ public final class WouldBeTest {
         CHECK.due("comes where one is", x.comes(4, 0, 0, 0), -1);
         CHECK.due("comes at no place", x.comes(4, 0, 256, 0), -1);
         CHECK.due("comes at no place", x.comes(-4, 0, 0, 1), -1);
-        CHECK.same("comes", Check.state(x), ahead);
+        CHECK.same("comes", Edges.points(x), ahead);
         CHECK.due("comes without a set", new ScaleNets().comes(1, 1, 1, 0), -1);
         ScaleNets empty = Check.of("set by bits;");
         CHECK.due("comes as the root", empty.comes(1, 1, 1, 0), 10);
@@ -33,7 +33,7 @@ public final class WouldBeTest {
 
     private static void goes() {
         ScaleNets x = Check.of(Check.FOUR);
-        String ahead = Check.state(x);
+        String ahead = Edges.points(x);
         int[][] want = {{2, 2, 3}, {1, 1, 0}, {0, 0, 0}, {0, 0, 0}};
         for (int p = 0; p < 4; p++) {
             for (int what = 0; what < 3; what++) {
@@ -44,7 +44,7 @@ public final class WouldBeTest {
         }
         CHECK.due("goes(4, 2)", x.goes(4, 2), -1);
         CHECK.due("goes(-1, 0)", x.goes(-1, 0), -1);
-        CHECK.same("goes", Check.state(x), ahead);
+        CHECK.same("goes", Edges.points(x), ahead);
         ScaleNets one = Check.of("set by sum;point a at 1 1 1;");
         CHECK.due("the last one goes", one.goes(0, 0), 0);
         CHECK.due("the last one goes", one.goes(0, 1), 0);
@@ -56,12 +56,12 @@ public final class WouldBeTest {
         CHECK.due("anew(0)", x.anew(0), 0);
         CHECK.due("anew(1)", x.anew(1), 0);
         x.drop(0);
-        String ahead = Check.state(x);
+        String ahead = Edges.points(x);
         CHECK.due("anew(0) behind the root went", x.anew(0), 2);
         CHECK.due("anew(1) behind the root went", x.anew(1), 2);
         CHECK.due("anew(2)", x.anew(2), -1);
         CHECK.due("anew(-1)", x.anew(-1), -1);
-        CHECK.same("anew", Check.state(x), ahead);
+        CHECK.same("anew", Edges.points(x), ahead);
         ScaleNets y = Check.of(Check.FOUR);
         y.drop(1);
         y.add(3, 0, 0);
