@@ -206,6 +206,23 @@ public final class LaterCallsTest {
         CHECK.due("undo of move", x.fits(-1), 2);
     }
 
+    static void promise35_fits_theKthIsAskedWithoutTheirNumber() {
+        ScaleNets x = told();
+        CHECK.due("fits(2)", x.fits(2), 2);
+        seen(x, 0, 3, 0, 90);
+        CHECK.due("fits(2) behind see()", x.fits(2), -1);
+        x.drop(3);
+        CHECK.due("fits(2) behind drop()", x.fits(2), 2);
+        x.undo();
+        CHECK.due("fits(2) behind undo()", x.fits(2), -1);
+        CHECK.due("tells(2) of two fits", x.tells(2), 1);
+        x.drop(0);
+        CHECK.due("fits(2) behind drop() of the other", x.fits(2), 2);
+        Check.tape(x, Kept.TOLD);
+        x.set();
+        CHECK.due("fits(2) behind set()", x.fits(2), 2);
+    }
+
     static void promise35_fits_isTheSameByAnyMeasure() {
         ScaleNets x = told();
         seen(x, 0, 3, 0, 90);
@@ -426,6 +443,38 @@ public final class LaterCallsTest {
         CHECK.due("named()", Kept.named(x, "bob"), 1);
     }
 
+    static void promise07_letter_ofNumbersThatAnEarlierSetHad() {
+        ScaleNets x = told();
+        Check.tape(x, "set by sum;point q at 1 1 1;");
+        x.set();
+        for (int p = 1; p < 7; p++) {
+            CHECK.due("add", x.add(9 * p, 0, 0), p);
+            CHECK.due("letter(" + p + ", 0)", x.letter(p, 0), 0);
+        }
+        CHECK.due("named() of one told ahead", Kept.named(x, "bob"), -1);
+        x.seed(77);
+        Check.tape(x, "set by sum;");
+        x.set();
+        x.chance(1);
+        CHECK.due("comes as 0", x.has(2), 0);
+        CHECK.due("letter(0, 0)", x.letter(0, 0), 0);
+    }
+
+    /** What would be is asked of the named points; an image put on behind that has no names all the same. */
+    static void promise07_letter_ofAnImageBehindWhatWouldBe() {
+        List<Consumer<ScaleNets>> calls = List.of(x -> x.goes(5, 0), x -> x.anew(0), ScaleNets::lay, x -> x.comes(1, 1, 1, 0));
+        for (Consumer<ScaleNets> call : calls) {
+            ScaleNets x = told();
+            call.accept(x);
+            CHECK.due("on()", on(x, Edges.checked(0, 2, 1, 0, 0, 0, 10, 255, 4, 0, 0, 9, 3, 1)), true);
+            CHECK.due("letter(1, 0)", x.letter(1, 0), 0);
+            CHECK.due("letter(4, 0)", x.letter(4, 0), 0);
+            CHECK.due("named()", Kept.named(x, "bob"), -1);
+            CHECK.due("comes as 0", x.add(1, 1, 1), 0);
+            CHECK.due("letter(0, 0)", x.letter(0, 0), 0);
+        }
+    }
+
     static void promise08_named_behindEachActThatLeavesAllPoints() {
         List<Consumer<ScaleNets>> acts = List.of(x -> x.move(1, 9, 9, 9), x -> x.move(0, 7, 7, 7), x -> x.by(1), ScaleNets::lay,
                 x -> x.add(5, 5, 5));
@@ -597,29 +646,87 @@ public final class LaterCallsTest {
 
     // ---- all else is of the points as they are
 
-    /** All that is asked of the points, but for names, what was searched and what was seen. */
-    private static String asked(ScaleNets x, int part) {
+    private interface Asks {
+        int of(ScaleNets x, int n);
+    }
+
+    private static final int[] NUMBERS = {0, 1, 2, 3, 4, 5, 6, 9, 13, 20, 30, 39, 40, -1};
+    private static final List<Asks> OF_POINTS = List.of((x, n) -> x.has(n), (x, n) -> x.point(n, 4), (x, n) -> x.point(n, 5),
+            (x, n) -> x.point(n, 6), (x, n) -> x.at(n, n, n), (x, n) -> x.child(x.has(2), n), (x, n) -> x.far(n, x.has(2)));
+    private static final List<Asks> OF_NETS = List.of((x, n) -> x.net(n, -1), (x, n) -> x.net(0, n), (x, n) -> x.above(n, 5),
+            (x, n) -> x.loose(n, 0), (x, n) -> x.loose(n, 1), (x, n) -> x.loose(n, 2), (x, n) -> x.most(n));
+    private static final List<Asks> OF_SEARCHES = List.of((x, n) -> x.nth(90, 60, 30, n), (x, n) -> x.within(90, 60, 30, 9 * n),
+            (x, n) -> x.remote(6 * n, 9, 9, 0), (x, n) -> x.remote(6 * n, 9, 9, 1), (x, n) -> x.remote(6 * n, 9, 9, 2),
+            (x, n) -> x.seek(6 * n, 9, 200), (x, n) -> x.proves(6 * n, 9, 200, 9));
+    private static final List<Asks> OF_ALL = List.of((x, n) -> x.centers(n, 0), (x, n) -> x.centers(n, 1), (x, n) -> x.centers(n, 2),
+            (x, n) -> x.center(n, 3), (x, n) -> x.pair(n), (x, n) -> x.thin(n), (x, n) -> x.link(n, 0), (x, n) -> x.link(n, 1),
+            (x, n) -> x.link(n, 2), (x, n) -> x.group(n, 60), (x, n) -> x.groups(6 * n));
+    private static final List<Asks> OF_WHAT_WOULD_BE = List.of((x, n) -> x.comes(6 * n, 6, 6, 0), (x, n) -> x.comes(6 * n, 6, 6, 1),
+            (x, n) -> x.goes(n, 0), (x, n) -> x.goes(n, 1), (x, n) -> x.goes(n, 2), (x, n) -> x.anew(n), (x, n) -> x.fits(n),
+            (x, n) -> x.tells(n));
+
+    private static String asked(ScaleNets x, Asks one) {
         StringBuilder b = new StringBuilder();
-        for (int n = -1; n < 41; n++) {
-            switch (part) {
-                case 0: b.append(x.point(n, 4)).append(x.point(n, 5)).append(x.point(n, 6)).append(x.child(x.has(2), n)).append(x.far(n, x.has(2)));
-                    break;
-                case 1: b.append(x.net(n, -1)).append(x.above(n, 5)).append(x.loose(n, 0)).append(x.loose(n, 1)).append(x.loose(n, 2))
-                        .append(x.most(n));
-                    break;
-                case 2: b.append(x.nth(90, 60, 30, n)).append(x.within(90, 60, 30, 9 * n)).append(x.remote(6 * n, 9, 9, 2)).append(x.seek(6 * n, 9, 200))
-                        .append(x.found(1)).append(x.found(3));
-                    break;
-                case 3: b.append(x.centers(n, 0)).append(x.centers(n, 1)).append(x.centers(n, 2)).append(x.center(n, 3)).append(x.thin(n));
-                    break;
-                case 4: b.append(x.pair(n)).append(x.link(n, 0)).append(x.link(n, 1)).append(x.link(n, 2)).append(x.group(n, 60)).append(x.groups(6 * n));
-                    break;
-                default: b.append(x.comes(6 * n, 6, 6, 0)).append(x.comes(6 * n, 6, 6, 1)).append(x.goes(n, 0)).append(x.goes(n, 1)).append(x.goes(n, 2))
-                        .append(x.anew(n)).append(x.tells(n));
-            }
-            b.append(' ');
+        for (int n : NUMBERS) {
+            b.append(one.of(x, n)).append(' ');
         }
         return b.toString();
+    }
+
+    private static ScaleNets askedAll(ScaleNets x) {
+        for (List<Asks> calls : List.of(OF_POINTS, OF_NETS, OF_SEARCHES, OF_ALL, OF_WHAT_WOULD_BE)) {
+            for (Asks one : calls) {
+                one.of(x, 1);
+                one.of(x, 4);
+            }
+        }
+        return x;
+    }
+
+    /** Whatever was asked ahead of the acts, each call answers as one that was asked all behind them. */
+    private static void askedAheadOfActs(List<Asks> calls) {
+        for (int seed = 0; seed < 12; seed++) {
+            for (int i = 0; i < calls.size(); i++) {
+                ScaleNets x = laterActs(askedAll(behindActs(Edges.empty("sum"), seed)), seed);
+                ScaleNets y = askedAll(laterActs(behindActs(Edges.empty("sum"), seed), seed));
+                CHECK.same("seed " + seed + ", call " + i, asked(x, calls.get(i)), asked(y, calls.get(i)));
+            }
+        }
+    }
+
+    static void promise09_point_asThePointsAreByNow() {
+        askedAheadOfActs(OF_POINTS);
+    }
+
+    static void promise15_loose_asThePointsAreByNow() {
+        askedAheadOfActs(OF_NETS);
+    }
+
+    static void promise17_seek_asThePointsAreByNow() {
+        askedAheadOfActs(OF_SEARCHES);
+    }
+
+    static void promise24_centers_asThePointsAreByNow() {
+        askedAheadOfActs(OF_ALL);
+    }
+
+    static void promise32_goes_asThePointsAreByNow() {
+        askedAheadOfActs(OF_WHAT_WOULD_BE);
+    }
+
+    /** What a seek found is all of its own, whatever the ones ahead of it found. */
+    static void promise18_found_nothingOfTheSeekAhead() {
+        for (int seed = 0; seed < 12; seed++) {
+            for (int n = 0; n < 40; n += 3) {
+                ScaleNets x = behindActs(Edges.empty("sum"), seed);
+                x.seek(255 - 6 * n, 200, 9);
+                laterActs(x, seed);
+                x.seek(6 * n, 9, 200);
+                ScaleNets y = laterActs(behindActs(Edges.empty("sum"), seed), seed);
+                y.seek(6 * n, 9, 200);
+                CHECK.same("seed " + seed + ", seek " + n, Kept.searched(x), Kept.searched(y));
+            }
+        }
     }
 
     private static ScaleNets ofImage(ScaleNets x) {
@@ -629,25 +736,32 @@ public final class LaterCallsTest {
         return y;
     }
 
-    private static ScaleNets behindActs(int seed) {
-        ScaleNets x = Edges.empty(seed % 2 == 0 ? "sum" : "most");
+    private static ScaleNets behindActs(ScaleNets x, int seed) {
         x.seed(seed);
         x.chance(40);
         x.chance(1 + seed);
         x.by(seed % 3);
         x.drop(3);
         x.undo();
-        x.drop(x.has(2));
-        x.move(5, seed, 2 * seed, 3 * seed);
         return x;
     }
 
-    /** Behind whatever acts, an object answers as a new one on which its image was put. */
+    private static ScaleNets laterActs(ScaleNets x, int seed) {
+        x.drop(x.has(2));
+        x.move(5, seed, 2 * seed, 3 * seed);
+        x.drop(x.net(0, seed % 4));
+        return x;
+    }
+
+    /** Behind whatever acts, an object answers as another on which its image was put. */
     static void promise47_on_answersAsTheObjectWhoseImageItIs() {
-        for (int seed = 0; seed < 24; seed++) {
-            for (int part = 0; part < 6; part++) {
-                ScaleNets y = ofImage(behindActs(seed));
-                CHECK.same("seed " + seed + ", part " + part, asked(y, part), asked(behindActs(seed), part));
+        for (int seed = 0; seed < 12; seed++) {
+            for (List<Asks> calls : List.of(OF_POINTS.subList(1, 7), OF_NETS, OF_SEARCHES, OF_ALL, OF_WHAT_WOULD_BE)) {
+                ScaleNets x = laterActs(behindActs(Edges.empty("sum"), seed), seed);
+                ScaleNets y = ofImage(x);
+                for (int i = 0; i < calls.size(); i++) {
+                    CHECK.same("seed " + seed + ", call " + i, asked(y, calls.get(i)), asked(x, calls.get(i)));
+                }
             }
         }
     }

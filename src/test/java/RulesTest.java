@@ -6,7 +6,9 @@ import java.nio.file.Files;
 import java.nio.file.Path;
 import java.util.ArrayList;
 import java.util.List;
+import java.util.Map;
 import java.util.Set;
+import java.util.TreeMap;
 import java.util.TreeSet;
 import java.util.regex.Matcher;
 import java.util.regex.Pattern;
@@ -65,7 +67,7 @@ public final class RulesTest {
 
     private static void words() throws java.io.IOException {
         String source = Files.readString(Path.of("src/main/java/ScaleNets.java"));
-        String bare = source.replaceAll("(?s)/\\*.*?\\*/", "").replaceAll("//[^\n]*", "").replaceAll("\"[^\"\n]*\"", "\"\"");
+        String bare = bareSource();
         String[] none = {"\\bthrow\\b", "\\btry\\b", "\\bcatch\\b", "\\bsynchronized\\b", "\\bassert\\b", "->", "::",
             "\\bthrows\\b", "\\bpackage\\b", "\\bstatic \\{", "Exact\\b", "\\bequals\\b", "\\bhashCode\\b", "\\btoString\\b",
             "\\bThread\\b", "\\bRandom\\b", "\\bnanoTime\\b", "\\bcurrentTimeMillis\\b", "\\bObject\\b", "\\bvar\\b", "\\[\\]\\["};
@@ -89,6 +91,54 @@ public final class RulesTest {
             length = line.matches(" +\\}") && line.length() <= 9 ? 0 : length + 1;
             CHECK.due("a method of over sixty lines at " + line, length > 75, false);
         }
+    }
+
+    /** Of each method, by its name, the methods of the file that its body calls; none of a name calls itself. */
+    private static Map<String, Set<String>> callsOfMethods(String bare) {
+        Map<String, String> bodies = new TreeMap<>();
+        Matcher m = Pattern.compile("(?ms)^( +)(?:public |private |static |final )*(?:int|long|boolean|void) (\\w+)\\([^)]*\\) \\{$(.*?)^\\1\\}$")
+                .matcher(bare);
+        while (m.find()) {
+            bodies.merge(m.group(2), m.group(3), String::concat);
+        }
+        Map<String, Set<String>> calls = new TreeMap<>();
+        for (Map.Entry<String, String> e : bodies.entrySet()) {
+            Set<String> called = new TreeSet<>();
+            Matcher call = Pattern.compile("\\b(\\w+)\\(").matcher(e.getValue());
+            while (call.find()) {
+                if (bodies.containsKey(call.group(1))) {
+                    called.add(call.group(1));
+                }
+            }
+            calls.put(e.getKey(), called);
+        }
+        return calls;
+    }
+
+    private static int depth(Map<String, Set<String>> calls, String name, int open) {
+        if (open > 20) {
+            return open;
+        }
+        int deepest = 1;
+        for (String called : calls.get(name)) {
+            deepest = Math.max(deepest, 1 + depth(calls, called, open + 1));
+        }
+        return deepest;
+    }
+
+    /** No recursion is needed, so the calls that stand open at once are few. */
+    private static void depths() throws java.io.IOException {
+        Map<String, Set<String>> calls = callsOfMethods(bareSource());
+        CHECK.due("methods of the file are found", calls.size() > 120, true);
+        for (String name : calls.keySet()) {
+            int deep = depth(calls, name, 0);
+            CHECK.due("at most eight calls deep: " + name + " " + deep, deep <= 8, true);
+        }
+    }
+
+    private static String bareSource() throws java.io.IOException {
+        return Files.readString(Path.of("src/main/java/ScaleNets.java"))
+                .replaceAll("(?s)/\\*.*?\\*/", "").replaceAll("//[^\n]*", "").replaceAll("\"[^\"\n]*\"", "\"\"");
     }
 
     private static int all(ScaleNets x, int i) {
@@ -137,6 +187,7 @@ public final class RulesTest {
     public static void main(String[] args) throws java.io.IOException {
         face();
         words();
+        depths();
         room();
         CHECK.finish();
     }
