@@ -409,7 +409,11 @@ public final class LeavesBehindTest {
         ToIntFunction<ScaleNets> act = x -> flag(x.move(5, 1, 91, 0));
         leaves("move", act, 1, Kept.POINTS, Kept.UNDONE);
         canBeUndone("move", act);
-        leaves("move of the root", x -> flag(x.move(0, 0, 0, 0) || x.move(6, 101, 0, 0)), 1,
+        canBeUndone("move of the root", x -> flag(x.move(0, 1, 0, 0)));
+        // Ann is 91 from dot then by sum, and by most 90 still, as was seen.
+        leaves("move of the root", x -> flag(x.move(0, 1, 0, 0)), 1, Kept.POINTS, Kept.UNDONE, Kept.SEEN);
+        then("move of the root", x -> flag(x.move(0, 1, 0, 0)), Kept.SEEN, "2 rows, fits 1: 1, -1, -1");
+        leaves("a refused move, then another", x -> flag(x.move(0, 0, 0, 0) || x.move(6, 101, 0, 0)), 1,
                 Kept.POINTS, Kept.UNDONE, Kept.REFUSED);
     }
 
